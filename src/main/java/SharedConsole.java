@@ -296,7 +296,7 @@ public final class SharedConsole {
         draw(screen, session, 0);
         Recording recording = recordingOf(session);
         for (int event = 0; event < desk.events; event++) {
-            play(screen, recording, event);
+            screen.play(recording, event);
             if (screen.showsWord(letters)) {
                 return event + 1;
             }
@@ -659,16 +659,7 @@ public final class SharedConsole {
         Recording recording = recordingOf(session);
         target.restart(sessions.sizeOf(session, false), sessions.sizeOf(session, true));
         for (int event = 0; event < position; event++) {
-            play(target, recording, event);
-        }
-    }
-
-    private static void play(Screen target, Recording recording, int event) {
-        int value = recording.number(Recording.VALUE, event);
-        if (recording.number(Recording.SORT, event) == SIZED) {
-            target.resize(value, recording.number(Recording.HEIGHT, event));
-        } else {
-            target.take(value);
+            target.play(recording, event);
         }
     }
 
@@ -1150,8 +1141,13 @@ public final class SharedConsole {
             return true;
         }
 
-        void take(int symbol) {
-            switch (symbol) {
+        void play(Recording recording, int event) {
+            int value = recording.number(Recording.VALUE, event);
+            if (recording.number(Recording.SORT, event) == SIZED) {
+                resize(value, recording.number(Recording.HEIGHT, event));
+                return;
+            }
+            switch (value) {
                 case NEWLINE:
                     goDown();
                     break;
@@ -1165,12 +1161,15 @@ public final class SharedConsole {
                     clear();
                     break;
                 default:
-                    put(symbol);
+                    put(value);
                     break;
+            }
+            if (column >= width) {
+                goDown();
             }
         }
 
-        void resize(int newWidth, int newHeight) {
+        private void resize(int newWidth, int newHeight) {
             for (int i = 0; i < height; i++) {
                 emptyFrom(up + i, newWidth);
             }
@@ -1223,9 +1222,6 @@ public final class SharedConsole {
                 places[startOf(cursorLine()) + column] = symbol;
             }
             column++;
-            if (column >= width) {
-                goDown();
-            }
         }
 
         private void emptyFrom(int line, int place) {
