@@ -204,10 +204,24 @@ public final class LoadTest {
         Check.due("8: 2", x.getSetting(2), SharedConsole.BAD_VALUE);
     }
 
+    /** Each letter of a word that the text format fixes counts. */
+    private static void fixedWords() {
+        String[][] statements = {{"", "session", " a 2 1;"}, {"", "user", " a 2 1;"}, {"", "set", " wait 1;"},
+            {"set ", "wait", " 1;"}, {"set ", "shrink", " 1;"}};
+        for (String[] parts : statements) {
+            fine(parts[0] + parts[1] + parts[2], 1);
+            for (int i = 0; i < parts[1].length(); i++) {
+                String other = parts[1].substring(0, i) + "x" + parts[1].substring(i + 1);
+                error(parts[0] + other + parts[2], SharedConsole.SYNTAX_ERROR, parts[0].length());
+            }
+        }
+    }
+
     public static void main(String[] arguments) {
         newObject();
         feed();
         texts();
+        fixedWords();
         load();
         loadReplaces();
         counts();

@@ -61,6 +61,19 @@ public final class ModelTest {
         return got instanceof Integer i ? i : -1;
     }
 
+    /** The same arguments, but now and then one number is as great or as small as a number can be, or near that. */
+    private Object[] stretched(Object[] arguments) {
+        if (arguments.length == 0 || !numbers.once(40)) {
+            return arguments;
+        }
+        int which = numbers.below(arguments.length);
+        if (arguments[which] instanceof Integer) {
+            int near = numbers.below(3);
+            arguments[which] = numbers.once(2) ? Integer.MAX_VALUE - near : Integer.MIN_VALUE + near;
+        }
+        return arguments;
+    }
+
     // ---- what is asked for
 
     private int session() {
@@ -223,7 +236,7 @@ public final class ModelTest {
         } else if ((name.equals("detach") || name.equals("yield")) && numbers.once(2)) {
             name = "attach";
         }
-        call(name, argumentsOfChange(name));
+        call(name, stretched(argumentsOfChange(name)));
     }
 
     private Object[] argumentsOfOther(String name) {
@@ -284,7 +297,7 @@ public final class ModelTest {
         } else if (numbers.once(200)) {
             call("load", numbers.from(-1, 3));
         } else {
-            call(name, argumentsOfOther(name));
+            call(name, stretched(argumentsOfOther(name)));
         }
     }
 

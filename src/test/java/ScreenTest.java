@@ -248,6 +248,12 @@ public final class ScreenTest {
         Check.due("25: the other way round", y.firstDifference(0, 4, 3), NOT_FOUND);
         y.window(0, 16, 6);
         Check.due("25: cut places are empty then", y.firstDifference(0, 3, 5), 2);
+        SharedConsole z = typing(4, 2);
+        Texts.type(z, 0, "x/x");
+        z.setSetting(SharedConsole.SHRINK, 1);
+        z.window(0, 16, 1);
+        Check.due("25: the lower row is in one alone", z.firstDifference(0, 3, 4), NOT_FOUND);
+        Check.due("25: the other way round too", z.firstDifference(0, 4, 3), NOT_FOUND);
     }
 
     private static void fullness() {

@@ -197,6 +197,8 @@ public final class WatchTest {
         Check.due("14: passed while nothing came", x.user(1, 4), 6);
         Check.due("22: in the past", x.reachedAt(1, 6), 176);
         Check.due("22: LIVE", x.reachedAt(0, 0), NOT_FOUND);
+        x.replay(1, 4, 11);
+        Check.due("22: a tick at 11 percent is 9 ticks and a bit", x.reachedAt(1, 6), x.count(3) + 10);
         x.goTo(1, 3);
         Check.due("22: stopped", x.reachedAt(1, 3), NOT_FOUND);
         Check.due("22: watches nothing", x.reachedAt(2, 0), NOT_FOUND);
