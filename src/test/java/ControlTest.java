@@ -6,26 +6,8 @@ public final class ControlTest {
 
     private ControlTest() { }
 
-    /** Users 0, 1 and 2 watch session 0; user 0 controls it; user 3 watches nothing. */
-    private static SharedConsole controlled() {
-        SharedConsole x = Texts.loaded("session s 4 2;session t 4 2;user a 4 2;user b 4 2;user c 4 2;user d 4 2;");
-        x.attach(0, 0);
-        x.attach(1, 0);
-        x.attach(2, 0);
-        x.request(0);
-        return x;
-    }
-
-    private static String control(SharedConsole x, int session) {
-        return x.session(session, 3) + " " + x.session(session, 4) + " " + x.session(session, 5);
-    }
-
-    private static String accounts(SharedConsole x) {
-        return x.account(0) + " " + x.account(1) + " " + x.account(2) + " " + x.account(3);
-    }
-
     private static void reasons() {
-        SharedConsole x = controlled();
+        SharedConsole x = Setups.controlled();
         Check.due("20: it can", x.whyNot(0), 0);
         Check.due("20: watches nothing", x.whyNot(3), 1);
         Check.due("20: another one controls it", x.whyNot(1), 4);
@@ -41,30 +23,30 @@ public final class ControlTest {
     }
 
     private static void requests() {
-        SharedConsole x = controlled();
-        Check.due("37: had at once", control(x, 0), "0 -1 -1");
-        Check.due("28: counted", accounts(x), "1 0 0 0");
+        SharedConsole x = Setups.controlled();
+        Check.due("37: had at once", Setups.control(x, 0), "0 -1 -1");
+        Check.due("28: counted", Setups.accounts(x), "1 0 0 0");
         Check.due("37: user 4", x.request(4), NOT_FOUND);
         Check.due("37: user -1", x.request(-1), NOT_FOUND);
         Check.due("37: controls already", x.request(0), NOT_ALLOWED);
         Check.due("37: watches nothing", x.request(3), NOT_ALLOWED);
         x.pass(3);
         Check.due("37: waits", x.request(1), 0);
-        Check.due("37: asks", control(x, 0), "0 1 3");
+        Check.due("37: asks", Setups.control(x, 0), "0 1 3");
         Check.due("37: somebody asks", x.request(2), NOT_ALLOWED);
         Check.due("37: itself", x.request(1), NOT_ALLOWED);
-        Check.due("28: two", accounts(x), "2 0 0 0");
+        Check.due("28: two", Setups.accounts(x), "2 0 0 0");
         x.goTo(2, 0);
         Check.due("37: stopped", x.request(2), NOT_ALLOWED);
         Check.due("28: 4", x.account(4), BAD_VALUE);
         Check.due("28: -1", x.account(-1), BAD_VALUE);
         x.attach(3, 1);
         Check.due("37: another session", x.request(3), 1);
-        Check.due("37: both", control(x, 0) + ", " + control(x, 1), "0 1 3, 3 -1 -1");
+        Check.due("37: both", Setups.control(x, 0) + ", " + Setups.control(x, 1), "0 1 3, 3 -1 -1");
     }
 
     private static void answers() {
-        SharedConsole x = controlled();
+        SharedConsole x = Setups.controlled();
         Check.due("38: user 4", x.answer(4, true), NOT_FOUND);
         Check.due("38: user -1", x.answer(-1, true), NOT_FOUND);
         Check.due("38: nobody asks", x.answer(0, true), NOT_ALLOWED);
@@ -73,18 +55,18 @@ public final class ControlTest {
         Check.due("38: nor another one", x.answer(2, true), NOT_ALLOWED);
         Check.due("38: nor who watches nothing", x.answer(3, true), NOT_ALLOWED);
         Check.due("38: refused", x.answer(0, false), 1);
-        Check.due("38: the request is gone", control(x, 0), "0 -1 -1");
-        Check.due("28: refused", accounts(x), "2 0 0 1");
+        Check.due("38: the request is gone", Setups.control(x, 0), "0 -1 -1");
+        Check.due("28: refused", Setups.accounts(x), "2 0 0 1");
         x.request(2);
         Check.due("38: given", x.answer(0, true), 2);
-        Check.due("38: who asked has it", control(x, 0), "2 -1 -1");
-        Check.due("28: consent", accounts(x), "3 1 0 1");
+        Check.due("38: who asked has it", Setups.control(x, 0), "2 -1 -1");
+        Check.due("28: consent", Setups.accounts(x), "3 1 0 1");
         Check.due("38: goes on watching", x.user(0, 2), SharedConsole.LIVE);
         Check.due("38: no longer", x.answer(0, true), NOT_ALLOWED);
     }
 
     private static void yielding() {
-        SharedConsole x = controlled();
+        SharedConsole x = Setups.controlled();
         Check.due("39: user 4", x.yield(4), BAD_VALUE);
         Check.due("39: user -1", x.yield(-1), BAD_VALUE);
         Check.due("39: does not control", x.yield(1), NOT_ALLOWED);
@@ -92,59 +74,59 @@ public final class ControlTest {
         x.request(1);
         Check.due("39: who asks can't", x.yield(1), NOT_ALLOWED);
         Check.due("39: who asked has it", x.yield(0), 1);
-        Check.due("39: now", control(x, 0), "1 -1 -1");
+        Check.due("39: now", Setups.control(x, 0), "1 -1 -1");
         int changes = x.undoCount();
         Check.due("39: nobody", x.yield(1), NOT_FOUND);
-        Check.due("39: nobody controls", control(x, 0), "-1 -1 -1");
+        Check.due("39: nobody controls", Setups.control(x, 0), "-1 -1 -1");
         Check.due("39: which is a change", x.undoCount(), changes + 1);
-        Check.due("28: neither is counted", accounts(x), "2 0 0 0");
+        Check.due("28: neither is counted", Setups.accounts(x), "2 0 0 0");
         x.undo();
-        Check.due("42: that is undone", control(x, 0), "1 -1 -1");
+        Check.due("42: that is undone", Setups.control(x, 0), "1 -1 -1");
     }
 
     private static void losing() {
         String[] ways = {"detach", "goTo", "replay", "attach", "attach again"};
         for (int way = 0; way < ways.length; way++) {
             for (int leaves = 0; leaves < 2; leaves++) {
-                SharedConsole x = controlled();
+                SharedConsole x = Setups.controlled();
                 x.request(1);
                 int answer = way == 0 ? x.detach(leaves) : way == 1 ? x.goTo(leaves, 0) : way == 2 ? x.replay(leaves, 0, 10)
                     : x.attach(leaves, way == 3 ? 1 : 0);
                 Check.due("29 to 33: fine", answer >= 0, true);
                 String what = "29 to 33: " + ways[way] + " of " + (leaves == 0 ? "who controls" : "who asks");
-                Check.due(what, control(x, 0), leaves == 0 ? "1 -1 -1" : "0 -1 -1");
-                Check.due("28: is not counted", accounts(x), "2 0 0 0");
+                Check.due(what, Setups.control(x, 0), leaves == 0 ? "1 -1 -1" : "0 -1 -1");
+                Check.due("28: is not counted", Setups.accounts(x), "2 0 0 0");
                 x.undo();
-                Check.due("42: comes back", control(x, 0), "0 1 0");
+                Check.due("42: comes back", Setups.control(x, 0), "0 1 0");
             }
         }
-        SharedConsole x = controlled();
+        SharedConsole x = Setups.controlled();
         x.detach(0);
-        Check.due("30: nobody has it", control(x, 0), "-1 -1 -1");
+        Check.due("30: nobody has it", Setups.control(x, 0), "-1 -1 -1");
         x.request(1);
         x.request(2);
         x.goLive(1);
         x.goLive(2);
         x.lookBack(1, 4);
         x.window(2, 3, 1);
-        Check.due("32: these keep it", control(x, 0), "1 2 0");
+        Check.due("32: these keep it", Setups.control(x, 0), "1 2 0");
         x.goTo(0, 0);
         x.attach(0, 0);
         x.detach(0);
-        Check.due("30: of others", control(x, 0), "1 2 0");
+        Check.due("30: of others", Setups.control(x, 0), "1 2 0");
     }
 
     private static void takeovers() {
-        SharedConsole x = controlled();
+        SharedConsole x = Setups.controlled();
         Check.due("21: nobody asks", x.grantedAt(0), NOT_FOUND);
         x.pass(5);
         x.request(1);
         Check.due("21: wait is 10", x.grantedAt(0), 15);
         Check.due("40: not yet", x.pass(9), 0);
-        Check.due("40: still", control(x, 0), "0 1 5");
+        Check.due("40: still", Setups.control(x, 0), "0 1 5");
         Check.due("40: now", x.pass(1), 1);
-        Check.due("40: taken over", control(x, 0), "1 -1 -1");
-        Check.due("28: because nobody answered", accounts(x), "2 0 1 0");
+        Check.due("40: taken over", Setups.control(x, 0), "1 -1 -1");
+        Check.due("28: because nobody answered", Setups.accounts(x), "2 0 1 0");
         Check.due("40: goes on watching", x.user(0, 2), SharedConsole.LIVE);
         x.setSetting(WAIT, 30);
         x.request(0);
@@ -152,7 +134,7 @@ public final class ControlTest {
         Check.due("21: wait is 30", x.grantedAt(0), 45);
         x.setSetting(WAIT, 3);
         Check.due("21: at least the next tick", x.grantedAt(0), 21);
-        Check.due("41: not without a tick", control(x, 0), "1 0 15");
+        Check.due("41: not without a tick", Setups.control(x, 0), "1 0 15");
         x.setSetting(WAIT, 6);
         Check.due("21: just the next tick", x.grantedAt(0), 21);
         x.setSetting(WAIT, 7);
@@ -171,8 +153,8 @@ public final class ControlTest {
             x.pass(1);
         }
         Check.due("40: two at different ticks", x.pass(20), 2);
-        Check.due("40: the first session", control(x, 0), "1 -1 -1");
-        Check.due("40: the second session", control(x, 1), "3 -1 -1");
+        Check.due("40: the first session", Setups.control(x, 0), "1 -1 -1");
+        Check.due("40: the second session", Setups.control(x, 1), "3 -1 -1");
         Check.due("40: the time", x.count(3), 24);
         Check.due("40: 0 ticks", x.pass(0), BAD_VALUE);
         Check.due("40: -1 ticks", x.pass(-1), BAD_VALUE);
@@ -192,7 +174,7 @@ public final class ControlTest {
     }
 
     private static void typing() {
-        SharedConsole x = controlled();
+        SharedConsole x = Setups.controlled();
         Check.due("36: user 4", x.type(4, 0), NOT_FOUND);
         Check.due("36: user -1", x.type(-1, 0), NOT_FOUND);
         Check.due("36: 0", x.type(3, 0), BAD_VALUE);
@@ -241,71 +223,7 @@ public final class ControlTest {
         Check.due("41: one that makes nothing different", x.setSetting(WAIT, 1) * 10 + x.undoCount(), 15);
     }
 
-    private static String everything(SharedConsole x) {
-        StringBuilder text = new StringBuilder();
-        for (int what = 0; what < 4; what++) {
-            text.append(x.count(what)).append(' ').append(x.account(what)).append(' ');
-        }
-        text.append(x.getSetting(WAIT)).append(x.getSetting(SHRINK));
-        for (int session = 0; session < x.count(0); session++) {
-            text.append("\nsession ").append(x.session(session, 2)).append(": ").append(control(x, session));
-            text.append(' ').append(Texts.screen(x, session)).append(' ').append(x.screen(session, x.session(session, 2), 4));
-        }
-        for (int user = 0; user < x.count(1); user++) {
-            text.append("\nuser");
-            for (int what = 0; what < 7; what++) {
-                text.append(' ').append(x.user(user, what));
-            }
-            text.append(' ').append(x.typedBy(user)).append(' ').append(x.behind(user));
-        }
-        return text.toString();
-    }
-
-    private static int change(SharedConsole x, int which) {
-        switch (which) {
-            case 0: return x.attach(3, 0);
-            case 1: return x.detach(1);
-            case 2: return x.goTo(0, 1);
-            case 3: return x.goLive(2);
-            case 4: return x.replay(1, 0, 50);
-            case 5: return x.lookBack(1, 3);
-            case 6: return x.window(1, 2, 1);
-            case 7: return x.type(0, Texts.keys("a/b/c"));
-            case 8: return x.request(2);
-            case 9: return x.answer(0, true);
-            case 10: return x.answer(0, false);
-            case 11: return x.pass(20);
-            case 12: return x.setSetting(SHRINK, 1);
-            case 13: return x.setSetting(WAIT, 50);
-            default: return x.yield(0);
-        }
-    }
-
     private static void undoing() {
-        for (int which = 0; which < 15; which++) {
-            SharedConsole x = Texts.loaded("session s 4 2;session t 4 2;user a 3 2;user b 4 1;user c 4 2;user d 2 2;set shrink 1;");
-            x.attach(0, 0);
-            x.request(0);
-            x.attach(1, 0);
-            x.attach(2, 0);
-            x.type(0, Texts.keys("xyz"));
-            if (which != 8) {
-                x.request(1);
-            }
-            if (which == 12) {
-                x.setSetting(SHRINK, 0);
-            }
-            if (which == 3) {
-                x.goTo(2, 1);
-            }
-            String before = everything(x);
-            int changes = x.undoCount();
-            Check.due("42: change " + which, change(x, which) >= 0, true);
-            Check.due("42: change " + which + " changes", everything(x).equals(before), false);
-            Check.due("42: change " + which + " is one", x.undoCount(), Math.min(changes + 1, 8));
-            Check.due("42: undo of " + which, x.undo(), Math.min(changes, 7));
-            Check.due("42: change " + which + " is undone", everything(x), before);
-        }
         SharedConsole x = new SharedConsole();
         for (int value = 1; value <= 20; value++) {
             x.setSetting(WAIT, value);
@@ -319,7 +237,7 @@ public final class ControlTest {
         x.setSetting(WAIT, 40);
         Check.due("42: one again", x.undoCount(), 1);
         Check.due("42: and back", x.undo() * 100 + x.getSetting(WAIT), 12);
-        SharedConsole y = controlled();
+        SharedConsole y = Setups.controlled();
         Texts.type(y, 0, "abcdef");
         y.undo();
         Texts.type(y, 0, "xy");

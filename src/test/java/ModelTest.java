@@ -8,7 +8,7 @@ import java.util.Map;
 
 /** Long runs of calls on the class and on the model: each answer must be the same. */
 public final class ModelTest {
-    private static final int RUNS = 300, CALLS = 512;
+    private static final int RUNS = 3000, CALLS = 512;
     private static final String[] CHANGES = {"attach", "detach", "goTo", "goLive", "replay", "lookBack", "window",
         "type", "request", "answer", "yield", "pass", "setSetting", "undo"};
     private static final String[] OTHERS = {"feed", "load", "errorPosition", "count", "undoCount", "named", "getSetting",
@@ -48,7 +48,11 @@ public final class ModelTest {
         }
     }
 
-    private int call(String name, Object... arguments) {
+    /** No object is used for more calls than the document allows: later ones are left out. */
+    private void call(String name, Object... arguments) {
+        if (log.size() >= CALLS) {
+            return;
+        }
         Object want = answer(model, OF_MODEL.get(name), arguments);
         Object got = answer(real, OF_CLASS.get(name), arguments);
         String told = name + Arrays.toString(arguments);
@@ -58,7 +62,6 @@ public final class ModelTest {
             log.forEach(System.out::println);
         }
         Check.due("run " + run + ": " + told, got, want);
-        return got instanceof Integer i ? i : -1;
     }
 
     /** The same arguments, but now and then one number is as great or as small as a number can be, or near that. */
@@ -77,15 +80,15 @@ public final class ModelTest {
     // ---- what is asked for
 
     private int session() {
-        return numbers.once(25) ? numbers.from(-1, 4) : numbers.below(Math.max(1, real.count(0)));
+        return numbers.once(25) ? numbers.from(-1, 4) : numbers.below(Math.max(1, model.count(0)));
     }
 
     private int user() {
-        return numbers.once(25) ? numbers.from(-1, 6) : numbers.below(Math.max(1, real.count(1)));
+        return numbers.once(25) ? numbers.from(-1, 6) : numbers.below(Math.max(1, model.count(1)));
     }
 
     private int events(int session) {
-        return session >= 0 && session < real.count(0) ? real.session(session, 2) : 0;
+        return session >= 0 && session < model.count(0) ? model.session(session, 2) : 0;
     }
 
     private int position(int session) {
@@ -97,7 +100,7 @@ public final class ModelTest {
     }
 
     private int watched(int user) {
-        return user >= 0 && user < real.count(1) ? real.user(user, 3) : 0;
+        return user >= 0 && user < model.count(1) ? model.user(user, 3) : 0;
     }
 
     private int symbols() {
@@ -206,7 +209,8 @@ public final class ModelTest {
             case "answer":
                 return new Object[] {numbers.once(3) ? user : typist(user), numbers.once(2)};
             case "pass":
-                return new Object[] {numbers.once(20) ? near(1, 500) : numbers.from(1, 9)};
+                boolean far = run % 9 == 4 || numbers.once(20);
+                return new Object[] {far ? near(1, 500) : numbers.from(1, 9)};
             case "setSetting":
                 return numbers.once(2) ? new Object[] {0, near(1, numbers.once(3) ? 99 : 9)} : new Object[] {near(0, 1), near(0, 1)};
             case "undo":
@@ -218,16 +222,20 @@ public final class ModelTest {
 
     /** Mostly somebody who controls a session. */
     private int typist(int user) {
-        if (numbers.once(6) || real.count(0) == 0) {
+        if (numbers.once(6) || model.count(0) == 0) {
             return user;
         }
-        int holder = real.session(numbers.below(real.count(0)), 3);
+        int holder = model.session(numbers.below(model.count(0)), 3);
         return holder < 0 ? user : holder;
     }
 
     private void change() {
         String name = CHANGES[numbers.below(CHANGES.length)];
-        if (numbers.once(run % 3 + 1)) {
+        if (run % 5 == 2 && numbers.once(4)) {
+            name = "undo";
+        } else if (run % 9 == 4 && numbers.once(2)) {
+            name = "pass";
+        } else if (numbers.once(run % 3 + 1)) {
             name = "type";
         } else if (numbers.once(3)) {
             name = "request";
@@ -296,12 +304,14 @@ public final class ModelTest {
             loadText(numbers.once(4) ? text() : spoiled(text()));
         } else if (numbers.once(200)) {
             call("load", numbers.from(-1, 3));
+        } else if (numbers.once(400)) {
+            loadText(" ".repeat(numbers.from(300, 600)) + "set wait 7;");
         } else {
             call(name, stretched(argumentsOfOther(name)));
         }
     }
 
-    /** All that can be asked of the present, so that nothing wrong stays unseen for long. */
+    /** What can be asked of the present, of any sessions and users, as far as the calls last. */
     private void askEverything() {
         for (int what = 0; what < 4; what++) {
             call("count", what);
@@ -310,43 +320,55 @@ public final class ModelTest {
         call("undoCount");
         call("getSetting", 0);
         call("getSetting", 1);
-        for (int session = 0; session < real.count(0); session++) {
-            int events = real.session(session, 2);
-            for (int what = 0; what < 6; what++) {
-                call("session", session, what);
+        int sessions = Math.max(1, model.count(0));
+        int users = Math.max(1, model.count(1));
+        int first = numbers.below(12);
+        for (int i = first; i < first + 6; i++) {
+            if (numbers.once(2)) {
+                askAboutSession(i % sessions);
+            } else {
+                askAboutUser(i % users);
             }
-            for (int what = 0; what < 5; what++) {
-                call("screen", session, events, what);
-                call("event", session, events - 1, what);
-            }
-            for (int place = 0; place < 96; place++) {
-                call("at", session, events, place / 16, place % 16);
-            }
-            for (int line = 0; line < 42; line++) {
-                call("above", session, events, line, line % 5);
-            }
-            for (int way = 0; way < 4; way++) {
-                call("watchers", session, way);
-            }
-            for (boolean height : new boolean[] {false, true}) {
-                call("rightSize", session, height);
-                call("narrowest", session, height);
-            }
-            call("grantedAt", session);
         }
-        for (int user = 0; user < real.count(1); user++) {
-            for (int what = 0; what < 7; what++) {
-                call("user", user, what);
-            }
-            for (String name : new String[] {"cursorRow", "whyNot", "behind", "typedBy", "write"}) {
-                call(name, user);
-            }
-            for (int i = 0; i < 103; i++) {
-                call("outputAt", i);
-            }
-            for (int place = 0; place < 96; place++) {
-                call("shown", user, place / 16, place % 16);
-            }
+    }
+
+    private void askAboutSession(int session) {
+        int events = events(session);
+        for (int what = 0; what < 6; what++) {
+            call("session", session, what);
+        }
+        for (int what = 0; what < 5; what++) {
+            call("screen", session, events, what);
+            call("event", session, events - 1, what);
+        }
+        for (int place = 0; place < 96; place++) {
+            call("at", session, events, place / 16, place % 16);
+        }
+        for (int line = 0; line < 42; line++) {
+            call("above", session, events, line, line % 5);
+        }
+        for (int way = 0; way < 4; way++) {
+            call("watchers", session, way);
+        }
+        for (boolean height : new boolean[] {false, true}) {
+            call("rightSize", session, height);
+            call("narrowest", session, height);
+        }
+        call("grantedAt", session);
+    }
+
+    private void askAboutUser(int user) {
+        for (int what = 0; what < 7; what++) {
+            call("user", user, what);
+        }
+        for (String name : new String[] {"cursorRow", "whyNot", "behind", "typedBy", "write"}) {
+            call(name, user);
+        }
+        for (int i = 0; i < 103; i++) {
+            call("outputAt", i);
+        }
+        for (int place = 0; place < 96; place++) {
+            call("shown", user, place / 16, place % 16);
         }
     }
 
@@ -355,16 +377,15 @@ public final class ModelTest {
             loadText(text());
         }
         int questions = run % 7 == 0 ? 2 : 10;
-        for (int call = 0; call < CALLS && !Check.anyFailed(); call++) {
+        int last = run % 4 == 0 ? numbers.from(60, 360) : CALLS;
+        while (log.size() < last && !Check.anyFailed()) {
             if (numbers.below(questions) < questions / 2) {
                 other();
             } else {
                 change();
             }
-            if (numbers.once(100)) {
-                askEverything();
-            }
         }
+        askEverything();
     }
 
     public static void main(String[] arguments) {

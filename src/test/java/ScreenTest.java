@@ -4,16 +4,8 @@ public final class ScreenTest {
 
     private ScreenTest() { }
 
-    /** A session of this size, and user 0 with its control and user 1 who only may come. */
-    private static SharedConsole typing(int width, int height) {
-        SharedConsole x = Texts.loaded("session s " + width + " " + height + ";user a 16 6;user b 3 2;session t 2 1;");
-        x.attach(0, 0);
-        x.request(0);
-        return x;
-    }
-
     private static void typed(int width, int height, String keys, String screen) {
-        SharedConsole x = typing(width, height);
+        SharedConsole x = Setups.typing(width, height);
         Texts.type(x, 0, keys);
         Check.due("12: " + width + " by " + height + " behind " + keys, Texts.screen(x, 0), screen);
     }
@@ -43,7 +35,7 @@ public final class ScreenTest {
     }
 
     private static void upperLines() {
-        SharedConsole x = typing(3, 2);
+        SharedConsole x = Setups.typing(3, 2);
         Texts.type(x, 0, "ab/cd/ef/#/g");
         int events = x.session(0, 2);
         Check.due("11: lines that went up", x.screen(0, events, 4), 2);
@@ -62,7 +54,7 @@ public final class ScreenTest {
     }
 
     private static void fortyLines() {
-        SharedConsole x = typing(2, 1);
+        SharedConsole x = Setups.typing(2, 1);
         for (int line = 0; line < 45; line++) {
             Texts.type(x, 0, (char) ('a' + line % 26) + "/");
         }
@@ -77,7 +69,7 @@ public final class ScreenTest {
     }
 
     private static void sizes() {
-        SharedConsole x = typing(4, 3);
+        SharedConsole x = Setups.typing(4, 3);
         Texts.type(x, 0, "abcdef/gh");
         Check.due("12: before", Texts.screen(x, 0), "abcd|ef__|gh__ 2,2");
         x.setSetting(SharedConsole.SHRINK, 1);
@@ -104,7 +96,7 @@ public final class ScreenTest {
     }
 
     private static void longLinesStay() {
-        SharedConsole x = typing(4, 1);
+        SharedConsole x = Setups.typing(4, 1);
         Texts.type(x, 0, "abcdefg");
         x.setSetting(SharedConsole.SHRINK, 1);
         x.window(0, 2, 1);
@@ -140,7 +132,7 @@ public final class ScreenTest {
     }
 
     private static void events() {
-        SharedConsole x = typing(5, 3);
+        SharedConsole x = Setups.typing(5, 3);
         Texts.type(x, 0, "b#");
         x.pass(3);
         x.setSetting(SharedConsole.SHRINK, 1);
@@ -165,7 +157,7 @@ public final class ScreenTest {
     }
 
     private static void screens() {
-        SharedConsole x = typing(5, 3);
+        SharedConsole x = Setups.typing(5, 3);
         Texts.type(x, 0, "ab/c");
         Check.due("11: width", x.screen(0, 4, 0), 5);
         Check.due("11: height", x.screen(0, 4, 1), 3);
@@ -192,7 +184,7 @@ public final class ScreenTest {
     }
 
     private static void words() {
-        SharedConsole x = typing(4, 2);
+        SharedConsole x = Setups.typing(4, 2);
         Texts.type(x, 0, "xabcab/zz");
         Check.due("24: a part of a row", x.firstShowing(0, Texts.keys("bc")), 4);
         Check.due("24: one letter", x.firstShowing(0, Texts.keys("x")), 1);
@@ -214,16 +206,16 @@ public final class ScreenTest {
         // written from behind: the word is there when its last letter is put in
         Texts.type(x, 0, "#_q\rp");
         Check.due("24: from behind", x.firstShowing(0, Texts.keys("pq")), 14);
-        SharedConsole y = typing(2, 1);
+        SharedConsole y = Setups.typing(2, 1);
         Texts.type(y, 0, "ab");
         Check.due("24: a row that went up at once is on no screen", y.firstShowing(0, Texts.keys("ab")), NOT_FOUND);
-        SharedConsole z = typing(16, 1);
+        SharedConsole z = Setups.typing(16, 1);
         Texts.type(z, 0, "aaaaaaaabcdef");
         Check.due("24: six letters", z.firstShowing(0, Texts.keys("abcdef")), 13);
     }
 
     private static void differences() {
-        SharedConsole x = typing(4, 3);
+        SharedConsole x = Setups.typing(4, 3);
         Texts.type(x, 0, "ab/c/_d");
         Check.due("25: the same", x.firstDifference(0, 7, 7), NOT_FOUND);
         Check.due("25: SPACE typed makes none", x.firstDifference(0, 5, 6), NOT_FOUND);
@@ -240,7 +232,7 @@ public final class ScreenTest {
         x.window(0, 2, 6);
         x.window(0, 16, 6);
         Check.due("25: only places that both have", x.firstDifference(0, 0, 8) * 100 + x.firstDifference(0, 7, 8), -1);
-        SharedConsole y = typing(4, 2);
+        SharedConsole y = Setups.typing(4, 2);
         Texts.type(y, 0, "abc");
         y.setSetting(SharedConsole.SHRINK, 1);
         y.window(0, 2, 1);
@@ -248,7 +240,7 @@ public final class ScreenTest {
         Check.due("25: the other way round", y.firstDifference(0, 4, 3), NOT_FOUND);
         y.window(0, 16, 6);
         Check.due("25: cut places are empty then", y.firstDifference(0, 3, 5), 2);
-        SharedConsole z = typing(4, 2);
+        SharedConsole z = Setups.typing(4, 2);
         Texts.type(z, 0, "x/x");
         z.setSetting(SharedConsole.SHRINK, 1);
         z.window(0, 16, 1);
@@ -257,7 +249,7 @@ public final class ScreenTest {
     }
 
     private static void fullness() {
-        SharedConsole x = typing(3, 2);
+        SharedConsole x = Setups.typing(3, 2);
         Check.due("26: empty", x.fullness(0, 0), 0.0f);
         Texts.type(x, 0, "ab_c");
         Check.due("26: two of six", x.fullness(0, 3), 2.0f / 6.0f);

@@ -57,10 +57,12 @@ final class Texts {
 
     /** The rows of the screen, with '|' between them, and the cursor's row and column behind a blank. */
     static String screen(SharedConsole x, int session, int position) {
+        int width = x.screen(session, position, 0);
+        int height = x.screen(session, position, 1);
         StringBuilder text = new StringBuilder();
-        for (int row = 0; row < x.screen(session, position, 1); row++) {
+        for (int row = 0; row < height; row++) {
             text.append(row == 0 ? "" : "|");
-            for (int column = 0; column < x.screen(session, position, 0); column++) {
+            for (int column = 0; column < width; column++) {
                 text.append(key(x.at(session, position, row, column)));
             }
         }
@@ -80,10 +82,12 @@ final class Texts {
     }
 
     static String window(SharedConsole x, int user) {
+        int width = x.user(user, 0);
+        int height = x.user(user, 1);
         StringBuilder text = new StringBuilder();
-        for (int row = 0; row < x.user(user, 1); row++) {
+        for (int row = 0; row < height; row++) {
             text.append(row == 0 ? "" : "|");
-            for (int column = 0; column < x.user(user, 0); column++) {
+            for (int column = 0; column < width; column++) {
                 text.append(key(x.shown(user, row, column)));
             }
         }

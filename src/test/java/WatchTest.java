@@ -6,17 +6,8 @@ public final class WatchTest {
 
     private WatchTest() { }
 
-    /** Session s of 4 by 2 with user a (4 by 2) in control, a session t, and users b (3 by 1) and c (16 by 6). */
-    private static SharedConsole watching(String keys) {
-        SharedConsole x = Texts.loaded("session s 4 2;session t 6 3;user a 4 2;user b 3 1;user c 16 6;");
-        x.attach(0, 0);
-        x.request(0);
-        Texts.type(x, 0, keys);
-        return x;
-    }
-
     private static void users() {
-        SharedConsole x = watching("abc");
+        SharedConsole x = Setups.watching("abc");
         Check.due("14: width", x.user(0, 0) * 100 + x.user(2, 0), 416);
         Check.due("14: height", x.user(0, 1) * 100 + x.user(2, 1), 206);
         Check.due("14: way", x.user(0, 2) * 10 + x.user(1, 2), 10 * LIVE);
@@ -45,7 +36,7 @@ public final class WatchTest {
     }
 
     private static void windows() {
-        SharedConsole x = watching("abcdefghij");
+        SharedConsole x = Setups.watching("abcdefghij");
         Check.due("15: the screen itself", Texts.window(x, 0), "efgh|ij__");
         x.attach(1, 0);
         Check.due("15: the cursor's line is the lowest", Texts.window(x, 1), "ij_");
@@ -113,7 +104,7 @@ public final class WatchTest {
     }
 
     private static void watchers() {
-        SharedConsole x = watching("abc");
+        SharedConsole x = Setups.watching("abc");
         Check.due("17: live", x.watchers(0, LIVE), 1);
         Check.due("29: two watch", x.attach(2, 0), 2);
         Check.due("17: live", x.watchers(0, LIVE), 5);
@@ -133,7 +124,7 @@ public final class WatchTest {
     }
 
     private static void rightSizes() {
-        SharedConsole x = watching("abc");
+        SharedConsole x = Setups.watching("abc");
         x.attach(1, 0);
         x.attach(2, 0);
         Check.due("18: its own size", x.rightSize(0, false) * 10 + x.rightSize(0, true), 42);
@@ -159,7 +150,7 @@ public final class WatchTest {
     }
 
     private static void replays() {
-        SharedConsole x = watching("ab");
+        SharedConsole x = Setups.watching("ab");
         x.pass(10);
         Texts.type(x, 0, "c");
         x.pass(5);
@@ -207,7 +198,7 @@ public final class WatchTest {
     }
 
     private static void replayErrors() {
-        SharedConsole x = watching("ab");
+        SharedConsole x = Setups.watching("ab");
         Check.due("33: user 3", x.replay(3, 9, 9), NOT_FOUND);
         Check.due("33: user -1", x.replay(-1, 9, 9), NOT_FOUND);
         Check.due("33: watches nothing", x.replay(1, 9, 9), NOT_ALLOWED);
@@ -229,7 +220,7 @@ public final class WatchTest {
     }
 
     private static void stops() {
-        SharedConsole x = watching("abc");
+        SharedConsole x = Setups.watching("abc");
         Check.due("31: user 3", x.goTo(3, 9), NOT_FOUND);
         Check.due("31: user -1", x.goTo(-1, 9), NOT_FOUND);
         Check.due("31: watches nothing", x.goTo(1, 9), NOT_ALLOWED);
@@ -263,7 +254,7 @@ public final class WatchTest {
     }
 
     private static void attaching() {
-        SharedConsole x = watching("abc");
+        SharedConsole x = Setups.watching("abc");
         Check.due("29: user 3", x.attach(3, 0), NOT_FOUND);
         Check.due("29: user -1", x.attach(-1, 0), NOT_FOUND);
         Check.due("29: session 2", x.attach(0, 2), NOT_FOUND);
@@ -292,7 +283,7 @@ public final class WatchTest {
     }
 
     private static void lookingBack() {
-        SharedConsole x = watching("abc");
+        SharedConsole x = Setups.watching("abc");
         Check.due("34: before", x.lookBack(0, 40), 0);
         Check.due("34: before", x.lookBack(0, 0), 40);
         Check.due("34: 41", x.lookBack(0, 41), BAD_VALUE);
@@ -308,7 +299,7 @@ public final class WatchTest {
     }
 
     private static void windowSizes() {
-        SharedConsole x = watching("abc");
+        SharedConsole x = Setups.watching("abc");
         Check.due("35: before", x.window(0, 16, 6), 4);
         Check.due("35: before", x.window(0, 2, 1), 16);
         Check.due("35: now", x.user(0, 0) * 10 + x.user(0, 1), 21);
@@ -374,7 +365,7 @@ public final class WatchTest {
     }
 
     private static void writing() {
-        SharedConsole x = watching("a_cdefghxyz");
+        SharedConsole x = Setups.watching("a_cdefghxyz");
         Check.due("44: nothing yet", x.outputAt(0), NOT_FOUND);
         Check.due("43: rows", Texts.written(x, 0), "efgh\nxyz \n");
         Check.due("44: behind the last", x.outputAt(10), NOT_FOUND);
