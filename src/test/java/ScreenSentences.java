@@ -143,6 +143,33 @@ final class ScreenSentences {
         Texts.type(x, 0, "ab/cd/e#");
         Check.due("a line that went up", Texts.above(x, 0, 8, 0), "ab" + "_".repeat(14));
         Check.due("no other did", x.screen(0, 8, 4), 1);
+        SharedConsole y = manyLines();
+        Texts.type(y, 0, "#");
+        Check.due("all that are kept", keptLines(y), MANY_LINES);
+    }
+
+    /** The lines that are kept of what manyLines types: 1 to 40, the first letters of which go on from b. */
+    private static final String MANY_LINES = "bcdefghijklmnopqrstuvwxyzabcdefghijklmno" + "z".repeat(40);
+
+    /** A session of the greatest height with as many lines above as are kept, one more having gone up. */
+    private static SharedConsole manyLines() {
+        SharedConsole x = Setups.typing(4, 6);
+        for (int line = 0; line < 46; line++) {
+            Texts.type(x, 0, lineKey(line) + "yz/");
+        }
+        return x;
+    }
+
+    /** Column 0 of all lines that went up, then column 2. */
+    private static String keptLines(SharedConsole x) {
+        int events = x.session(0, 2);
+        StringBuilder text = new StringBuilder();
+        for (int column = 0; column < 4; column += 2) {
+            for (int line = 0; line < 40; line++) {
+                text.append((char) ('a' - 1 + x.above(0, events, line, column)));
+            }
+        }
+        return text.toString();
     }
 
     private void goingDown() {
@@ -254,6 +281,12 @@ final class ScreenSentences {
         Check.due("also when it gets wide", Texts.above(x, 0, 13, 0), "abcd" + "_".repeat(12));
         Check.due("nothing comes back", Texts.above(x, 0, 13, 1), "ef" + "_".repeat(14));
         Check.due("nor here", Texts.screen(x, 0), "ij__|____ 0,1");
+        SharedConsole y = manyLines();
+        y.setSetting(SHRINK, 1);
+        y.window(0, 2, 6);
+        Check.due("all that are kept, narrower", keptLines(y), MANY_LINES);
+        y.window(0, 16, 6);
+        Check.due("all that are kept, wider", keptLines(y), MANY_LINES);
     }
 
     private void session() {
@@ -447,6 +480,13 @@ final class ScreenSentences {
         SharedConsole y = Setups.typing(2, 1);
         Texts.type(y, 0, "ab");
         Check.due("not in a line that went up", y.firstShowing(0, Texts.keys("ab")), NOT_FOUND);
+        SharedConsole z = Setups.typing(16, 2);
+        Texts.type(z, 0, "abcdefghijklmnopqr");
+        Check.due("not around the end of the widest row", z.firstShowing(0, Texts.keys("pq")), NOT_FOUND);
+        Check.due("nor further around it", z.firstShowing(0, Texts.keys("opqr")), NOT_FOUND);
+        Texts.type(z, 0, "xyz");
+        z.undo();
+        Check.due("not what is undone", z.firstShowing(0, Texts.keys("x")), NOT_FOUND);
         int letter = 24 << 25;
         int[] noWords = {0, 1, 24, 1 << 20, -1, LEAST, MOST, letter | 1 << 30, letter | 1 << 31, letter | 1 << 15,
             letter | 1, 27 << 25, letter | 27 << 20, letter | 28 << 20, letter | 31 << 20, letter | 1 << 20 | 27 << 15};

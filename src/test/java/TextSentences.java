@@ -148,6 +148,9 @@ final class TextSentences {
             + "behind the last one.");
         takes(" \n\n  user\na \n2  1\n ; \n set\nwait\n5\n;\n\n ", "2");
         takes("user a 2 1 ;", "1");
+        SharedConsole x = Texts.loaded("user\na 2\n1;user b 2 1;session\n\n\nc 3\n2;");
+        Check.due("names behind them", x.named(true, Texts.keys("a")) * 10 + x.named(false, Texts.keys("c")), 0);
+        Check.due("numbers behind them", x.session(0, 0) * 10 + x.session(0, 1), 32);
         takes(" ", "0");
         takes("\n", "0");
         takes("us er a 2 1;", "SYNTAX at 0");
@@ -158,6 +161,7 @@ final class TextSentences {
                 || character == ';' || character == ' ' || character == '\n';
             if (!known) {
                 Check.due("character " + character + " between", taken("user a " + (char) character + "2 1;"), "SYNTAX at 7");
+                Check.due("character " + character + " for ';'", taken("user a 2 1" + (char) character), "SYNTAX at 10");
                 Check.due("character " + character + " behind", taken("user a 2 1;" + (char) character), "SYNTAX at 11");
             }
         }
