@@ -1,7 +1,11 @@
 import java.io.IOException;
+import java.lang.reflect.Field;
+import java.lang.reflect.Modifier;
 import java.nio.file.Files;
 import java.nio.file.Path;
 import java.util.List;
+import java.util.Set;
+import java.util.TreeSet;
 import java.util.regex.Matcher;
 import java.util.regex.Pattern;
 
@@ -10,6 +14,11 @@ public final class LanguageTest {
     private static final String[] NEVER = {"import ", "package ", "->", "::", "static {", "try ", "catch", "finally",
         "synchronized", "assert ", "@Override", "@Suppress", "System.", "Exact(", "equals(", "hashCode", "toString(", "double",
         "instanceof"};
+
+    private static final Set<String> LIBRARY = Set.of("java.lang.Object.new", "java.lang.IndexOutOfBoundsException.new",
+        "java.lang.Math.floorMod(int,int)", "java.lang.Math.max(int,int)", "java.lang.Math.min(int,int)",
+        "java.lang.String.charAt(int)", "java.lang.String.length()");
+    private static final int MOST_CALLS_DEEP = 8, MOST_FIELDS = 20;
 
     private LanguageTest() { }
 
@@ -40,6 +49,27 @@ public final class LanguageTest {
         return most;
     }
 
+    private static void checkCalls(Path path) throws IOException {
+        CallGraph graph = new CallGraph(path);
+        Set<String> library = new TreeSet<>(graph.library());
+        Check.due("calls of the library were seen", library.contains("java.lang.Math.floorMod(int,int)"), true);
+        library.removeAll(LIBRARY);
+        Check.due("other calls of the library", library, Set.of());
+        Check.due("recursion", graph.hasRecursion(), false);
+        Check.due("calls were seen", graph.deepest() > 3, true);
+        Check.due("calls deeper than eight", graph.deepest() > MOST_CALLS_DEEP, false);
+    }
+
+    private static void checkFields(Class<?> owner) {
+        int fields = 0;
+        for (Field field : owner.getDeclaredFields()) {
+            boolean isStatic = Modifier.isStatic(field.getModifiers());
+            fields += isStatic ? 0 : 1;
+            Check.due("may change: " + field, isStatic && !Modifier.isFinal(field.getModifiers()), false);
+        }
+        Check.due("at most twenty fields of " + owner, fields <= MOST_FIELDS, true);
+    }
+
     public static void main(String[] arguments) throws IOException {
         Path path = Path.of(arguments[0]);
         String source = Files.readString(path);
@@ -63,6 +93,11 @@ public final class LanguageTest {
         Check.due("methods of at most sixty lines", longestMethod(lines) <= 60, true);
         Check.due("parameters were seen", mostParameters(source) >= 5, true);
         Check.due("at most seven parameters", mostParameters(source) <= 7, true);
+        checkCalls(path);
+        checkFields(SharedConsole.class);
+        for (Class<?> inside : SharedConsole.class.getDeclaredClasses()) {
+            checkFields(inside);
+        }
         Check.end();
     }
 }
